@@ -585,6 +585,7 @@ public final class EdgeCounterPlacer {
             source[edges] = from;
             target[edges] = to;
             statedWeight[edges] = weight;
+            // A block has no more leaving edges than the graph has edges, so there is room here too.
             leaving[from][leavingCount[from]] = edges;
             leavingCount[from]++;
             edges++;
