@@ -579,15 +579,15 @@ public final class EdgeCounterPlacer {
         }
 
         void addEdge(int from, int to, int weight) {
-            if (isFull() || !hasBlock(from) || !hasBlock(to)) {
+            int place = leavingCount(from);
+            if (isFull() || !hasBlock(from) || !hasBlock(to) || place >= MOST_EDGES) {
                 return;
             }
             source[edges] = from;
             target[edges] = to;
             statedWeight[edges] = weight;
-            // A block has no more leaving edges than the graph has edges, so there is room here too.
-            leaving[from][leavingCount[from]] = edges;
-            leavingCount[from]++;
+            leaving[from][place] = edges;
+            leavingCount[from] = place + 1;
             edges++;
         }
 
@@ -608,7 +608,7 @@ public final class EdgeCounterPlacer {
         }
 
         int leavingEdge(int block, int index) {
-            if (index < 0 || index >= leavingCount(block)) {
+            if (index < 0 || index >= leavingCount(block) || index >= MOST_EDGES) {
                 return NO_EDGE;
             }
             return leaving[block][index];

@@ -24,7 +24,7 @@ public final class AnyArgumentsTest {
                 + "e8,7,1;e6,5,1;e4,3,1;e2,1,1;");
             x.configure();
         }
-        for (int call = 0; call < 512; call++) {
+        for (int call = run % 3 == 0 ? 112 : 0; call < 512; call++) {
             try {
                 int answer = call(x, random.nextInt(28), any(random), any(random));
                 DUE.holds("the answer of call " + call + " in run " + run + " is a code or a value", answer >= -105);

@@ -24,6 +24,10 @@ final class Due {
         }
     }
 
+    int asked() {
+        return asked;
+    }
+
     /** Stops a comparison of long runs early, where one fault would print thousands of lines. */
     boolean isHopeless() {
         return wrong > 20;

@@ -156,8 +156,11 @@ public final class PlacementTest {
 
     /** Shares of all lengths: the bits must be those of the division of two floats. */
     private static void shareBitsAreRounded() {
-        EdgeCounterPlacer x = Texts.configured("b3;e0,1,999;e0,1,0;e1,2,0;");
+        EdgeCounterPlacer x = null;
         for (int weight = 0; weight < 400; weight++) {
+            if (weight % 100 == 0) {
+                x = Texts.configured("b3;e0,1,999;e0,1,0;e1,2,0;");
+            }
             int light = weight * 7 % 1000;
             x.setWeight(1, light);
             float share = (float) light / (float) (999 + light);

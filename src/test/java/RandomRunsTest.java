@@ -49,10 +49,13 @@ public final class RandomRunsTest {
     // ---- texts
 
     private void newGraph() {
+        String text = random.nextInt(5) == 0 ? spoiled(graphText()) : graphText();
+        if (calls + text.length() + 4 > CALLS) {
+            return;
+        }
         if (random.nextInt(6) > 0) {
             due("clearText()", x.clearText(), plain.clearText());
         }
-        String text = random.nextInt(5) == 0 ? spoiled(graphText()) : graphText();
         for (int i = 0; i < text.length(); i++) {
             int character = text.charAt(i);
             due("append(" + character + ")", x.append(character), plain.append(character));
@@ -161,14 +164,17 @@ public final class RandomRunsTest {
     }
 
     private void reconstructAll() {
+        if (calls + 2 * edgeTotal + plain.blockCount() > CALLS) {
+            return;
+        }
         for (int edge = 0; edge < edgeTotal; edge++) {
             int got = x.reconstruct(edge);
             due("reconstruct(" + edge + ")", got, plain.reconstruct(edge));
             if (got != EdgeCounterPlacer.UNCERTAIN) {
-                DUE.equal(run + calls + ": a certain count is the true one", got, x.trueCount(edge));
+                due("trueCount(" + edge + ") of a certain count", x.trueCount(edge), got);
             }
         }
-        for (int block = 0; block < x.blockCount(); block++) {
+        for (int block = 0; block < plain.blockCount(); block++) {
             due("executions(" + block + ")", x.executions(block), plain.executions(block));
         }
     }
