@@ -18,6 +18,10 @@ final class Document {
     private final Map<String, StringBuilder> texts = new LinkedHashMap<>();
     private final Map<String, BitSet> quoted = new LinkedHashMap<>();
 
+    static boolean isHere() {
+        return Files.isRegularFile(PLACE);
+    }
+
     Document() throws IOException {
         String part = "";
         for (String line : Files.readAllLines(PLACE)) {

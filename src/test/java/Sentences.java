@@ -12,7 +12,8 @@ final class Sentences {
 
     static final int[] NO_EDGES_OF_8 = {8, 9, 20, 31, 32, 40, -1, -24, -32, Integer.MIN_VALUE, Integer.MAX_VALUE};
 
-    private final Document document = new Document();
+    /** Null where the document is not at hand: then the answers alone are looked at. */
+    private final Document document = Document.isHere() ? new Document() : null;
     private final Due due;
     private String part = "";
     private String looked = "";
@@ -29,13 +30,19 @@ final class Sentences {
 
     void test(String sentence, Runnable check) {
         looked = part + ", \"" + sentence + "\": ";
-        due.holds(looked + "the document says so", document.quote(part, sentence));
+        if (document != null) {
+            due.holds(looked + "the document says so", document.quote(part, sentence));
+        }
         int askedBefore = due.asked();
         check.run();
         due.holds(looked + "the test asks something", due.asked() > askedBefore);
     }
 
     void noneIsLeft() {
+        if (document == null) {
+            System.out.println("There is no document to compare the quoted sentences with.");
+            return;
+        }
         for (String name : document.parts()) {
             if (!ELSEWHERE.contains(name)) {
                 String rest = document.unquoted(name);
